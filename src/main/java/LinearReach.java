@@ -433,8 +433,8 @@ public final class LinearReach {
         }
 
         /**
-         * Whether the row can hold with that number of a name that it is about. The last two are
-         * leastOfOthers and mostOfOthers, which are the same for all numbers of the name.
+         * Whether the row can hold with that number of a name that it is about. The last two are what
+         * endOfOthers answers: it is the same for all numbers of the name.
          */
         boolean allows(int name, int number, Spans spans, int leastOthers, int mostOthers) {
             int own = factors[name] * number;
@@ -468,38 +468,23 @@ public final class LinearReach {
             }
         }
 
-        /** The least that the other names with factors can give: their sum, or of COUNT how many they are. */
-        int leastOfOthers(int name, Spans spans) {
-            int least = 0;
+        /** The least or the most that the other names with factors can give: a sum, or of COUNT how many. */
+        int endOfOthers(int name, Spans spans, boolean most) {
+            int sum = 0;
             for (int other = 0; other < MAX_NAMES; other++) {
                 int factor = factors[other];
                 if (other == name || factor == 0) {
                     continue;
                 }
                 if (kind == COUNT) {
-                    least += spans.isOnly(other, right) ? 1 : 0;
+                    boolean counts = most ? spans.covers(other, right) : spans.isOnly(other, right);
+                    sum += counts ? 1 : 0;
                 } else {
-                    least += factor * (factor > 0 ? spans.least[other] : spans.most[other]);
+                    boolean ofMost = most == (factor > 0);
+                    sum += factor * (ofMost ? spans.most[other] : spans.least[other]);
                 }
             }
-            return least;
-        }
-
-        /** The most that the other names with factors can give. */
-        int mostOfOthers(int name, Spans spans) {
-            int most = 0;
-            for (int other = 0; other < MAX_NAMES; other++) {
-                int factor = factors[other];
-                if (other == name || factor == 0) {
-                    continue;
-                }
-                if (kind == COUNT) {
-                    most += spans.covers(other, right) ? 1 : 0;
-                } else {
-                    most += factor * (factor > 0 ? spans.most[other] : spans.least[other]);
-                }
-            }
-            return most;
+            return sum;
         }
 
         private boolean allowsProduct(int product, Spans spans) {
@@ -665,8 +650,8 @@ public final class LinearReach {
         private void sift(int row, int name) {
             Row asked = rowList.all[row];
             Spans spans = sets.spans;
-            int leastOthers = asked.leastOfOthers(name, spans);
-            int mostOthers = asked.mostOfOthers(name, spans);
+            int leastOthers = asked.endOfOthers(name, spans, false);
+            int mostOthers = asked.endOfOthers(name, spans, true);
             int most = spans.most[name];
             for (int number = spans.least[name]; number <= most; number++) {
                 if (hasBit(sets.now[name], number)
@@ -693,8 +678,8 @@ public final class LinearReach {
                     continue;
                 }
                 trial.copyPart(part, sets.firstSpans);
-                int leastOthers = row.leastOfOthers(name, trial);
-                int mostOthers = row.mostOfOthers(name, trial);
+                int leastOthers = row.endOfOthers(name, trial, false);
+                int mostOthers = row.endOfOthers(name, trial, true);
                 if (row.allows(name, number, trial, leastOthers, mostOthers)) {
                     trial.copyPart(part, sets.spans);
                     parts |= 1 << part;
