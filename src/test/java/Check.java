@@ -6,8 +6,14 @@ final class Check {
     static final int ROOM = -1003;
 
     private static final int TOLD_AT_MOST = 40;
+    private String about = "";
     private int right = 0;
     private int wrong = 0;
+
+    /** What the answers from now on are about: it is told before each wrong one. */
+    void setAbout(String newAbout) {
+        about = newAbout.isEmpty() ? "" : newAbout + ": ";
+    }
 
     void due(String call, long got, long want) {
         if (got == want) {
@@ -16,7 +22,7 @@ final class Check {
         }
         wrong++;
         if (wrong <= TOLD_AT_MOST) {
-            System.out.println(call + " answered " + got + ", due is " + want);
+            System.out.println(about + call + " answered " + got + ", due is " + want);
         }
     }
 
@@ -26,6 +32,10 @@ final class Check {
 
     boolean allRight() {
         return wrong == 0;
+    }
+
+    int answers() {
+        return right + wrong;
     }
 
     /** Ends the test: with exit code 1, if an answer was wrong, or there was none at all. */

@@ -33,7 +33,8 @@ public final class NamesTest {
             int high = fitting[i][1];
             check.due("name(" + low + ", " + high + ")", x.name(low, high), i);
             check.due("size", x.size(i), high - low + 1);
-            for (int v = -34; v <= 33; v++) {
+            int[] asked = {-33, -32, low - 1, low, (low + high) / 2, high, high + 1, 31, 32};
+            for (int v : asked) {
                 check.due("has(" + i + ", " + v + ")", x.has(i, v), low <= v && v <= high ? 1 : 0);
             }
         }

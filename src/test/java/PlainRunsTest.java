@@ -2,7 +2,8 @@ import java.util.Random;
 
 /** Promises 1 to 17: long runs of calls, with seeds that are told, held against PlainReach. */
 public final class PlainRunsTest {
-    private static final int CALLS = 512;
+    /** Below 512 by more than the calls that are made at one go. */
+    private static final int CALLS = 512 - 40;
     private static final int RUNS = 1500;
 
     private final Check check;
