@@ -290,7 +290,7 @@ public final class LinearReach {
         }
 
         boolean meets(int name, int low, int high) {
-            return Math.max(least[name], low) <= Math.min(most[name], high);
+            return low <= high && low <= most[name] && least[name] <= high;
         }
     }
 

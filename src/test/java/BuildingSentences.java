@@ -46,6 +46,7 @@ final class BuildingSentences {
         check.due("plans()", x.plans(), 1);
         check.due("run(0, 200)", x.run(0, 200), 1);
         check.due("clear()", x.clear(), 0);
+        x = new LinearReach();
         check.due("the first name", x.name(0, 0), 0);
         check.due("factor(0, 0, 0)", x.factor(0, 0, 0), Check.OUTSIDE);
         check.due("the first row", x.row(0, 0, 0, 0, 0), 0);

@@ -1,6 +1,7 @@
 /** Of 'Terms' what is impossible, and what a round, a clash, a step and a reason are. */
 final class RoundSentences {
     private static final String TERMS = "Terms";
+    private static final int[][] SPANS = {{1, 3}, {-3, 2}, {-5, -2}, {0, 0}, {1, 1}, {2, 2}, {-1, 4}};
     private final Check check;
     private final Looks looks;
 
@@ -44,6 +45,38 @@ final class RoundSentences {
         Build.sum(alone, 0, 8, 2);
         alone.run(0, 200);
         looks.left("without other names the row alone says it", alone, 0, 0, 1, 2, 3, 4);
+        for (int kind = 0; kind < 10; kind++) {
+            for (int place = 0; place < 3; place++) {
+                for (int[] one : SPANS) {
+                    for (int[] other : SPANS) {
+                        againstAllNumbers(kind, place, one, other);
+                    }
+                }
+            }
+        }
+    }
+
+    /** Name 0, as a, b or c (place 0, 1, 2), against PlainReach, which tries all numbers of the others. */
+    private void againstAllNumbers(int kind, int place, int[] one, int[] other) {
+        LinearReach x = Build.names(-32, 31, one[0], one[1], other[0], other[1]);
+        PlainReach due = new PlainReach();
+        due.name(-32, 31);
+        due.name(one[0], one[1]);
+        due.name(other[0], other[1]);
+        x.row(kind, (3 - place) % 3, (4 - place) % 3, (5 - place) % 3, 2);
+        due.row(kind, (3 - place) % 3, (4 - place) % 3, (5 - place) % 3, 2);
+        int[] factors = {1, 2, -1};
+        for (int name = 0; name < 3; name++) {
+            x.factor(0, name, factors[name]);
+            due.factor(0, name, factors[name]);
+        }
+        x.run(0, 1);
+        due.run(0, 1);
+        String title = "kind " + kind + ", place " + place + ", " + one[0] + " .. " + one[1] + ", "
+                + other[0] + " .. " + other[1];
+        for (int v = -32; v <= 31; v++) {
+            check.due(title + ": has(0, " + v + ")", x.has(0, v), due.has(0, v));
+        }
     }
 
     private void gaps() {
@@ -64,6 +97,29 @@ final class RoundSentences {
         Build.sum(ends, 1, 0, 1, -1);
         ends.run(0, 200);
         looks.left("what is left out at the ends is no bound", ends, 1, 1, 2);
+        for (int kind = 0; kind < 10; kind++) {
+            for (int place = 0; place < 3; place++) {
+                LinearReach withGaps = aboutOneToThree(kind, place, true);
+                LinearReach without = aboutOneToThree(kind, place, false);
+                for (int v = -32; v <= 31; v++) {
+                    check.due("kind " + kind + ", place " + place + ": has(0, " + v + ")",
+                            withGaps.has(0, v), without.has(0, v));
+                }
+            }
+        }
+    }
+
+    /** Name 0 is a, b or c (place 0, 1, 2) of a row; the others have 1 .. 3, or 1 and 3; one round. */
+    private static LinearReach aboutOneToThree(int kind, int place, boolean withGaps) {
+        LinearReach x = Build.names(-32, 31, 1, 3, 1, 3);
+        if (withGaps) {
+            x.leave(1, 2);
+            x.leave(2, 2);
+        }
+        x.row(kind, (3 - place) % 3, (4 - place) % 3, (5 - place) % 3, 2);
+        Build.factors(x, 0, 1, 1, 1);
+        x.run(0, 1);
+        return x;
     }
 
     /** x and y are 4 together, y is 0 .. 2. */
@@ -211,17 +267,23 @@ final class RoundSentences {
         check.due("from the last one on", x.run(1, 200), 0);
         check.due("row 1 came before the CLASH", x.size(2), 1);
         check.due("steps()", x.steps(), 5);
+        LinearReach later = Build.names(0, 2, 0, 2);
+        Build.sum(later, 0, -1, 0, 1);
+        Build.sum(later, 0, 0, 1);
+        check.due("of a later name: run", later.run(0, 200), 0);
+        check.due("row 1 is not gone through", later.size(0), 3);
+        check.due("steps()", later.steps(), 3);
     }
 
     private void noRoundAnyMore() {
         LinearReach x = Build.names(0, 2, 0, 2);
-        Build.sum(x, 0, -1, 1);
-        Build.sum(x, 0, 0, 0, 1);
+        Build.sum(x, 0, -1, 0, 1);
+        Build.sum(x, 0, 0, 1);
         check.due("run", x.run(0, 200), 0);
         for (int order = 0; order < 2; order++) {
             check.due("run again", x.run(order, 200), 0);
             check.due("steps()", x.steps(), 3);
-            check.due("size(1)", x.size(1), 3);
+            check.due("size(0)", x.size(0), 3);
             check.due("clash()", x.clash(), 0);
         }
     }

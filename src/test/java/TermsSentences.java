@@ -3,6 +3,7 @@ import java.util.Random;
 /** 'What it is', and of 'Terms' names, sets, rows, what holds and what a plan is. */
 final class TermsSentences {
     private static final String TERMS = "Terms";
+    private static final int[] NAMED = {0, 0, 3, 3, 2, 3, 3, 2, 1, 1};
     private final Check check;
     private final Looks looks;
 
@@ -136,6 +137,12 @@ final class TermsSentences {
     }
 
     private void butThoseLeftOut() {
+        for (int number = -32; number <= 31; number++) {
+            LinearReach all = Build.names(-32, 31);
+            all.leave(0, number);
+            check.due("all but " + number + ": size(0)", all.size(0), 63);
+            check.due("all but " + number + ": has it", all.has(0, number), 0);
+        }
         LinearReach x = Build.names(-3, 4);
         x.leave(0, -3);
         x.leave(0, 0);
@@ -182,13 +189,12 @@ final class TermsSentences {
 
     /** Each kind with just the names that it has, the rest being no names. */
     private void differentNames() {
-        int[] named = {0, 0, 3, 3, 2, 3, 3, 2, 1, 1};
         for (int kind = 0; kind < 10; kind++) {
             LinearReach x = Build.alike(3, 0, 1);
-            int b = named[kind] >= 2 ? 1 : -5;
-            int c = named[kind] >= 3 ? 0 : -5;
-            check.due("kind " + kind, x.row(kind, named[kind] >= 1 ? 2 : -5, b, c, 0), 0);
-            for (int i = 0; i < named[kind]; i++) {
+            int b = NAMED[kind] >= 2 ? 1 : -5;
+            int c = NAMED[kind] >= 3 ? 0 : -5;
+            check.due("kind " + kind, x.row(kind, NAMED[kind] >= 1 ? 2 : -5, b, c, 0), 0);
+            for (int i = 0; i < NAMED[kind]; i++) {
                 check.due("kind " + kind + " wants name " + i,
                         x.row(kind, i == 0 ? 3 : 2, i == 1 ? 3 : b, i == 2 ? 3 : c, 0), Check.OUTSIDE);
             }
@@ -256,24 +262,46 @@ final class TermsSentences {
         check.due("and takes all of name 0", y.run(0, 200), 0);
     }
 
-    /** Whether a row holds with just these numbers. */
+    /**
+     * Whether a row holds with just these numbers; each of a, b, c is name 0 once, so that it is the
+     * first one to be gone through, and loses its number if the row can't hold.
+     */
     private void holds(int kind, int right, int a, int b, int c, boolean due) {
-        LinearReach x = Build.names(a, a, b, b, c, c);
-        x.row(kind, 0, 1, 2, right);
-        String row = "kind " + kind + " with " + a + ", " + b + ", " + c + ", right " + right;
-        check.due(row + ": plans()", x.plans(), due ? 1 : 0);
-        check.due(row + ": run(0, 200)", x.run(0, 200), due ? 1 : 0);
+        int[] numbers = {a, b, c};
+        for (int shift = 0; shift < 3; shift++) {
+            LinearReach x = new LinearReach();
+            for (int i = 0; i < 3; i++) {
+                x.name(numbers[(i + shift) % 3], numbers[(i + shift) % 3]);
+            }
+            x.row(kind, (3 - shift) % 3, (4 - shift) % 3, (5 - shift) % 3, right);
+            String row = "kind " + kind + " with " + a + ", " + b + ", " + c + ", right " + right;
+            isOnePlan(row + ", shift " + shift, x, due, shift < NAMED[kind]);
+        }
     }
 
-    /** The first number is a's, where the kind has one. */
+    /** The first number is a's, where the kind has one; each name is name 0 once. */
     private void sumHolds(int kind, int right, int[] numbers, int[] factors, boolean due) {
-        LinearReach x = new LinearReach();
-        for (int number : numbers) {
-            x.name(number, number);
+        int count = numbers.length;
+        for (int shift = 0; shift < count; shift++) {
+            LinearReach x = new LinearReach();
+            for (int i = 0; i < count; i++) {
+                x.name(numbers[(i + shift) % count], numbers[(i + shift) % count]);
+            }
+            x.row(kind, (count - shift) % count, 0, 0, right);
+            for (int i = 0; i < factors.length; i++) {
+                x.factor(0, (i + count - shift) % count, factors[i]);
+            }
+            boolean isAbout = shift == 0 && NAMED[kind] == 1 || shift < factors.length && factors[shift] != 0;
+            isOnePlan("kind " + kind + ", right " + right + ", shift " + shift, x, due, isAbout);
         }
-        Build.tied(x, kind, 0, right, factors);
-        check.due("kind " + kind + ", right " + right + ": plans()", x.plans(), due ? 1 : 0);
-        check.due("kind " + kind + ", right " + right + ": run(0, 200)", x.run(0, 200), due ? 1 : 0);
+    }
+
+    /** Of names that have one number each: there is nothing to take, or the first look takes one. */
+    private void isOnePlan(String row, LinearReach x, boolean due, boolean isAboutName0) {
+        check.due(row + ": plans()", x.plans(), due ? 1 : 0);
+        check.due(row + ": run(0, 200)", x.run(0, 200), due ? 1 : 0);
+        check.due(row + ": steps()", x.steps(), due ? 0 : 1);
+        check.due(row + ": size(0)", x.size(0), due || !isAboutName0 ? 1 : 0);
     }
 
     private void atMost() {
@@ -384,6 +412,7 @@ final class TermsSentences {
 
     private void ifTrue() {
         int[] factors = {0, 2, -1};
+        sumHolds(8, 3, new int[] {1, 3, 4}, factors, true);
         sumHolds(8, 2, new int[] {1, 3, 4}, factors, true);
         sumHolds(8, 1, new int[] {1, 3, 4}, factors, false);
         sumHolds(8, 1, new int[] {0, 3, 4}, factors, true);
@@ -439,6 +468,11 @@ final class TermsSentences {
         check.due("unlike ones", x.plans(), 9);
         Build.sum(x, 0, 1, 0, 1);
         check.due("and 1 is at most 1", x.plans(), 5);
+        LinearReach many = Build.alike(3, 0, 31);
+        Build.sum(many, 0, 1, 1, 1, 1);
+        check.due("32 times 32 times 32", many.plans(), Check.NONE);
+        many.run(0, 1);
+        check.due("of the SETS now, 2 times 2 times 2", many.plans(), 4);
         LinearReach clashed = Build.clashing();
         check.due("no number is at most -1", clashed.plans(), 0);
         clashed.run(0, 200);
