@@ -81,7 +81,8 @@ public final class PlainRunsTest {
     private void setFactor(int row) {
         int name = index(names);
         int factor = random.nextInt(20) == 0 ? between(-11, 11) : between(-3, 3);
-        due("factor(" + row + ", " + name + ", " + factor + ")", x.factor(row, name, factor), y.factor(row, name, factor));
+        due("factor(" + row + ", " + name + ", " + factor + ")",
+                x.factor(row, name, factor), y.factor(row, name, factor));
     }
 
     private void leaveOne() {

@@ -36,7 +36,8 @@ final class PlanSentences {
     private void withoutNames() {
         LinearReach x = new LinearReach();
         check.due("no rows", x.plans(), 1);
-        int[][] rows = {{0, 0, 1}, {0, -1, 0}, {0, 1, 1}, {0, 1000, 1}, {0, -1000, 0}, {1, 0, 1}, {1, 1, 0}, {1, -1, 0}};
+        int[][] rows = {{0, 0, 1}, {0, -1, 0}, {0, 1, 1}, {0, 1000, 1}, {0, -1000, 0},
+            {1, 0, 1}, {1, 1, 0}, {1, -1, 0}};
         for (int[] row : rows) {
             x.clear();
             x.row(row[0], 0, 0, 0, row[1]);

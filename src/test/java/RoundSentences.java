@@ -18,8 +18,8 @@ final class RoundSentences {
         s.hold(TERMS, "A ROUND goes through the rows, from 0 on, or from the last one on", this::rowByRow);
         s.hold(TERMS, "of each through the names that it is about, by rising numbers", this::nameByName);
         s.hold(TERMS, "of each through the numbers of its SET, from the least on", this::numberByNumber);
-        s.hold(TERMS, "one that is IMPOSSIBLE is TAKEN out at once (LEAST and MOST are those as they are at each moment)",
-                this::takenAtOnce);
+        s.hold(TERMS, "one that is IMPOSSIBLE is TAKEN out at once "
+                + "(LEAST and MOST are those as they are at each moment)", this::takenAtOnce);
         s.hold(TERMS, "Rounds are done up to one that takes nothing (which counts", this::upToRest);
         s.hold(TERMS, "then there is REST)", this::restStays);
         s.hold(TERMS, "or as many as are told", this::asManyAsTold);
@@ -29,7 +29,8 @@ final class RoundSentences {
         s.hold(TERMS, "Each number that is TAKEN is a STEP, numbered from 0 on", this::stepsFrom0);
         s.hold(TERMS, "of the other names that the row is about, each LEAST that is not FIRST's, "
                 + "and each MOST that is not FIRST's, as they were at that moment", this::boundsOfOthers);
-        s.hold(TERMS, "from the last name to the first, of each first MOST, then LEAST, is left out", this::leftOutFromLast);
+        s.hold(TERMS, "from the last name to the first, of each first MOST, then LEAST, is left out",
+                this::leftOutFromLast);
         s.hold(TERMS, "if without it (FIRST's LEAST or MOST in its place, and of those that were left out) "
                 + "the number is IMPOSSIBLE still", this::leftOutTogether);
     }
