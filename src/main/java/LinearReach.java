@@ -175,15 +175,15 @@ public final class LinearReach {
     }
 
     public int part(int i, int k) {
-        return isPart(i, k) ? taken.partAt(i, k) : OUTSIDE;
+        return isStep(i) ? taken.partAt(i, k) : OUTSIDE;
     }
 
     public int told(int i, int k) {
-        if (!isPart(i, k)) {
+        int part = part(i, k);
+        int name = part / 2;
+        if (part < 0 || !isName(name)) {
             return OUTSIDE;
         }
-        int part = taken.partAt(i, k);
-        int name = part / 2;
         // FIRST can't have changed since the step, so the set of that moment need not be kept.
         long set = taken.without(sets.first[name], name, i);
         return part % 2 == 1 ? mostOf(set) : leastOf(set);
@@ -214,10 +214,6 @@ public final class LinearReach {
 
     private boolean isStep(int i) {
         return i >= 0 && i < taken.count;
-    }
-
-    private boolean isPart(int i, int k) {
-        return isStep(i) && k >= 0 && k < Integer.bitCount(taken.parts[i]);
     }
 
     /** Looks only at the first so many of a, b, c. */
@@ -586,7 +582,7 @@ public final class LinearReach {
             }
         }
 
-        /** The place of the k-th bit, k being below the number of parts. */
+        /** The place of the k-th bit, from 0 on; OUTSIDE, if there is none. */
         int partAt(int i, int k) {
             int before = 0;
             for (int bit = 0; bit < 2 * MAX_NAMES; bit++) {

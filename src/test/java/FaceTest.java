@@ -23,14 +23,20 @@ public final class FaceTest {
         return text.append(')').toString();
     }
 
+    private static TreeSet<String> namesOfFace() {
+        TreeSet<String> names = new TreeSet<>();
+        for (String method : FACE) {
+            names.add(method.substring(0, method.indexOf('(')));
+        }
+        return names;
+    }
+
     private static void methods() {
         TreeSet<String> due = new TreeSet<>(Arrays.asList(FACE));
-        TreeSet<String> publicNames = new TreeSet<>();
         TreeSet<String> found = new TreeSet<>();
         for (Method method : LinearReach.class.getDeclaredMethods()) {
             if (Modifier.isPublic(method.getModifiers())) {
                 found.add(told(method));
-                publicNames.add(method.getName());
                 check.isTrue(method + " answers an int", method.getReturnType() == int.class);
                 check.isTrue(method + " is no static one", !Modifier.isStatic(method.getModifiers()));
             }
@@ -39,7 +45,7 @@ public final class FaceTest {
         for (Method method : LinearReach.class.getDeclaredMethods()) {
             if (!Modifier.isPublic(method.getModifiers())) {
                 check.isTrue(method + " is private", Modifier.isPrivate(method.getModifiers()));
-                check.isTrue(method + " has a name of its own", !publicNames.contains(method.getName()));
+                check.isTrue(method + " has a name of its own", !namesOfFace().contains(method.getName()));
             }
         }
     }
@@ -72,6 +78,9 @@ public final class FaceTest {
             check.isTrue(inside + " is static", Modifier.isStatic(inner));
             check.isTrue(inside + " is not public", !Modifier.isPublic(inner) && !Modifier.isProtected(inner));
             check.isTrue(inside + " has at most twenty fields", inside.getDeclaredFields().length <= 20);
+            for (Method method : inside.getDeclaredMethods()) {
+                check.isTrue(method + " has a name of its own", !namesOfFace().contains(method.getName()));
+            }
         }
         check.isTrue("at most twelve classes", LinearReach.class.getDeclaredClasses().length < 12);
     }

@@ -2,6 +2,9 @@ import java.io.IOException;
 import java.nio.charset.StandardCharsets;
 import java.nio.file.Files;
 import java.nio.file.Path;
+import java.util.Map;
+import java.util.TreeMap;
+import java.util.TreeSet;
 import java.util.regex.Matcher;
 import java.util.regex.Pattern;
 
@@ -15,7 +18,14 @@ public final class LanguageTest {
     private static final Pattern LIBRARY = Pattern.compile("\\b(Math|Long|Integer|System)\\.(\\w+)");
     private static final String ALLOWED = " max min abs bitCount floorDiv numberOfTrailingZeros"
             + " numberOfLeadingZeros arraycopy ";
+    private static final Pattern HEAD =
+            Pattern.compile("^( {4}| {8})(?!if |for |while |switch )[A-Za-z][^=;]*?(\\w+)\\((.*)\\) \\{$");
+    private static final Pattern CALL = Pattern.compile("(\\w+)\\(");
     private static final int LONGEST_METHOD = 60;
+    private static final int DEEPEST_CALLS = 8;
+
+    /** By a method's name, the methods of the file that it calls. */
+    private static final Map<String, TreeSet<String>> called = new TreeMap<>();
 
     private static String withoutComments(String text) {
         return text.replaceAll("(?s)/\\*.*?\\*/", "").replaceAll("//[^\n]*", "");
@@ -40,19 +50,46 @@ public final class LanguageTest {
         }
     }
 
-    private static void lengths(String text) {
-        String[] lines = text.split("\n");
-        Pattern head = Pattern.compile("^( {4}| {8})[a-z][^=;]*\\((.*)\\) \\{$");
+    private static void methods(String[] lines) {
         for (int i = 0; i < lines.length; i++) {
-            Matcher method = head.matcher(lines[i]);
-            if (method.matches()) {
+            Matcher head = HEAD.matcher(lines[i]);
+            if (head.matches()) {
                 int length = 1;
-                while (i + length < lines.length && !lines[i + length].equals(method.group(1) + "}")) {
+                while (i + length < lines.length && !lines[i + length].equals(head.group(1) + "}")) {
+                    addCalls(head.group(2), lines[i + length]);
                     length++;
                 }
                 check.isTrue(lines[i].strip() + " is short", length < LONGEST_METHOD);
-                check.isTrue(lines[i].strip() + " has few parameters", method.group(2).split(",").length <= 7);
+                check.isTrue(lines[i].strip() + " has few parameters", head.group(3).split(",").length <= 7);
             }
+        }
+    }
+
+    private static void addCalls(String caller, String line) {
+        TreeSet<String> names = called.computeIfAbsent(caller, key -> new TreeSet<>());
+        Matcher call = CALL.matcher(line);
+        while (call.find()) {
+            names.add(call.group(1));
+        }
+        // Recursion is bound by a rule of its own.
+        names.remove(caller);
+    }
+
+    /** How many calls stand open at once below this one, and it: methods of the same name are taken as one. */
+    private static int depth(String method) {
+        int deepest = 0;
+        for (String next : called.getOrDefault(method, new TreeSet<>())) {
+            if (called.containsKey(next)) {
+                deepest = Math.max(deepest, depth(next));
+            }
+        }
+        return deepest + 1;
+    }
+
+    private static void depths() {
+        check.isTrue("run() calls others", depth("run") > 3);
+        for (String method : called.keySet()) {
+            check.isTrue(method + " goes " + depth(method) + " deep", depth(method) <= DEEPEST_CALLS);
         }
     }
 
@@ -61,7 +98,8 @@ public final class LanguageTest {
         String code = withoutComments(text);
         words(code);
         statics(code);
-        lengths(text);
+        methods(code.split("\n"));
+        depths();
         check.finish();
     }
 }

@@ -1,5 +1,9 @@
+import java.math.BigInteger;
 import java.util.ArrayList;
+import java.util.Arrays;
+import java.util.HashMap;
 import java.util.List;
+import java.util.Map;
 import java.util.TreeSet;
 
 /**
@@ -8,6 +12,8 @@ import java.util.TreeSet;
  */
 final class PlainReach {
     private static final int[] NAMED = {0, 0, 3, 3, 2, 3, 3, 2, 1, 1};
+    /** No sum is below 8 times 9 times -32: so many added, none is below 0. */
+    private static final int SHIFT = 8 * 9 * 32;
 
     private static final class PlainRow {
         int kind;
@@ -24,31 +30,45 @@ final class PlainReach {
             return factors[name] != 0;
         }
 
-        boolean holds(int[] x) {
-            int sum = 0;
-            int count = 0;
-            for (int n = 0; n < 8; n++) {
-                sum += factors[n] * x[n];
-                if (factors[n] != 0 && x[n] == right) {
-                    count++;
-                }
-            }
-            int a = abc.length > 0 ? x[abc[0]] : 0;
-            int b = abc.length > 1 ? x[abc[1]] : 0;
-            int c = abc.length > 2 ? x[abc[2]] : 0;
-            return switch (kind) {
-                case 0 -> sum <= right;
-                case 1 -> sum == right;
-                case 2 -> a == b * c;
-                case 3 -> c != 0 && a == (int) Math.floor((double) b / c);
-                case 4 -> a == (b < 0 ? -b : b);
-                case 5 -> a == (b > c ? b : c);
-                case 6 -> a == (b < c ? b : c);
-                case 7 -> a != b + right;
-                case 8 -> a != 1 || sum <= right;
-                default -> a == count;
-            };
+        boolean hasFactors() {
+            return kind < 2 || kind > 7;
         }
+
+        /** What a number of a name gives to the sum, or of COUNT to how many. */
+        int given(int name, int number) {
+            return kind != 9 ? factors[name] * number : factors[name] != 0 && number == right ? 1 : 0;
+        }
+
+        boolean holds(int[] x) {
+            int given = 0;
+            for (int n = 0; n < 8; n++) {
+                given += given(n, x[n]);
+            }
+            int[] numbers = new int[3];
+            for (int i = 0; i < abc.length; i++) {
+                numbers[i] = x[abc[i]];
+            }
+            return PlainReach.holds(kind, numbers, given, right);
+        }
+    }
+
+    /** With the numbers of a, b, c (those that the kind has), and the sum, or of COUNT how many are RIGHT. */
+    static boolean holds(int kind, int[] abc, int given, int right) {
+        int a = abc[0];
+        int b = abc[1];
+        int c = abc[2];
+        return switch (kind) {
+            case 0 -> given <= right;
+            case 1 -> given == right;
+            case 2 -> a == b * c;
+            case 3 -> c != 0 && a == (int) Math.floor((double) b / c);
+            case 4 -> a == (b < 0 ? -b : b);
+            case 5 -> a == (b > c ? b : c);
+            case 6 -> a == (b < c ? b : c);
+            case 7 -> a != b + right;
+            case 8 -> a != 1 || given <= right;
+            default -> a == given;
+        };
     }
 
     private record PlainStep(int row, int name, int number, int round, List<int[]> reason) {
@@ -58,6 +78,7 @@ final class PlainReach {
     private final List<TreeSet<Integer>> now = new ArrayList<>();
     private final List<PlainRow> rows = new ArrayList<>();
     private final List<PlainStep> steps = new ArrayList<>();
+    private final Map<String, BigInteger> allGivenBefore = new HashMap<>();
     private int clashRow = Check.NONE;
     private int round = 0;
 
@@ -67,6 +88,7 @@ final class PlainReach {
             now.add(new TreeSet<>(set));
         }
         steps.clear();
+        allGivenBefore.clear();
         clashRow = Check.NONE;
         round = 0;
     }
@@ -234,22 +256,60 @@ final class PlainReach {
     }
 
     private boolean isImpossible(PlainRow row, int name, int number, int[][] bounds) {
-        if (row.kind != 1) {
+        if (!row.hasFactors()) {
             return !canHold(row, name, number, bounds, 0, new int[8]);
         }
-        PlainRow same = new PlainRow();
-        PlainRow turned = new PlainRow();
-        same.abc = turned.abc = new int[0];
-        same.right = row.right;
-        turned.right = -row.right;
-        for (int n = 0; n < 8; n++) {
-            same.factors[n] = row.factors[n];
-            turned.factors[n] = -row.factors[n];
+        BigInteger others = allGivenByOthers(row, name, bounds);
+        int own = row.given(name, number);
+        if (row.kind == 1) {
+            return !canHoldWith(0, 0, others, own, 1, row.right) || !canHoldWith(0, 0, others, own, -1, -row.right);
         }
-        return !canHold(same, name, number, bounds, 0, new int[8])
-                || !canHold(turned, name, number, bounds, 0, new int[8]);
+        int a = row.kind == 0 ? 0 : row.abc[0];
+        int low = row.kind == 0 ? 0 : a == name ? number : bounds[a][0];
+        int high = row.kind == 0 ? 0 : a == name ? number : bounds[a][1];
+        for (int v = low; v <= high; v++) {
+            if (canHoldWith(row.kind, v, others, own, 1, row.right)) {
+                return false;
+            }
+        }
+        return true;
     }
 
+    /** With one of what the others can give. */
+    private static boolean canHoldWith(int kind, int a, BigInteger others, int own, int sign, int right) {
+        for (int bit = others.getLowestSetBit(); bit < others.bitLength(); bit++) {
+            if (others.testBit(bit) && holds(kind, new int[] {a, 0, 0}, sign * (own + bit - SHIFT), right)) {
+                return true;
+            }
+        }
+        return false;
+    }
+
+    /**
+     * Eight wide names are too many to try all their numbers together: so all that the first ones can
+     * give is kept, as bits, and each number of the next one is added to each.
+     */
+    private BigInteger allGivenByOthers(PlainRow row, int name, int[][] bounds) {
+        String key = rows.indexOf(row) + " " + name + " " + Arrays.deepToString(bounds);
+        BigInteger before = allGivenBefore.get(key);
+        if (before != null) {
+            return before;
+        }
+        BigInteger all = BigInteger.ONE.shiftLeft(SHIFT);
+        for (int n = 0; n < bounds.length; n++) {
+            if (n != name && row.factors[n] != 0) {
+                BigInteger more = BigInteger.ZERO;
+                for (int v = bounds[n][0]; v <= bounds[n][1]; v++) {
+                    more = more.or(all.shiftLeft(row.given(n, v)));
+                }
+                all = more;
+            }
+        }
+        allGivenBefore.put(key, all);
+        return all;
+    }
+
+    /** Of a row without factors: all numbers of the names that it is about are tried. */
     private boolean canHold(PlainRow row, int name, int number, int[][] bounds, int at, int[] chosen) {
         if (at == bounds.length) {
             return row.holds(chosen);

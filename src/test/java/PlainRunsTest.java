@@ -56,14 +56,14 @@ public final class PlainRunsTest {
     }
 
     private void addRow() {
-        int kind = wide ? between(2, 7) : between(0, 9);
+        int kind = between(0, 9);
         if (random.nextInt(40) == 0) {
             kind = between(-1, 10);
         }
         int a = index(names);
         int b = index(names);
         int c = index(names);
-        int right = random.nextInt(30) == 0 ? between(-1100, 1100) : between(-6, 9);
+        int right = random.nextInt(30) == 0 ? between(-1100, 1100) : wide ? between(-60, 60) : between(-6, 9);
         if (kind == 9) {
             right = between(-4, 4);
         }
@@ -80,7 +80,7 @@ public final class PlainRunsTest {
 
     private void setFactor(int row) {
         int name = index(names);
-        int factor = random.nextInt(20) == 0 ? between(-11, 11) : between(-3, 3);
+        int factor = random.nextInt(wide ? 2 : 20) == 0 ? between(-11, 11) : between(-3, 3);
         due("factor(" + row + ", " + name + ", " + factor + ")",
                 x.factor(row, name, factor), y.factor(row, name, factor));
     }
@@ -131,7 +131,7 @@ public final class PlainRunsTest {
     }
 
     private void go() {
-        int namesWanted = wide ? between(3, 5) : between(3, 8);
+        int namesWanted = between(3, wide ? 6 : 8);
         for (int i = 0; i < namesWanted; i++) {
             addName();
         }
