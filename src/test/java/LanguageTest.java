@@ -19,7 +19,7 @@ public final class LanguageTest {
     private static final String ALLOWED = " max min abs bitCount floorDiv numberOfTrailingZeros"
             + " numberOfLeadingZeros arraycopy ";
     private static final Pattern HEAD =
-            Pattern.compile("^( {4}| {8})(?!if |for |while |switch )[A-Za-z][^=;]*?(\\w+)\\((.*)\\) \\{$");
+            Pattern.compile("^( {4}| {8})(?!if |for |while |switch )(?=[A-Za-z])[^=;]*?\\b(\\w+)\\((.*)\\) \\{$");
     private static final Pattern CALL = Pattern.compile("(\\w+)\\(");
     private static final int LONGEST_METHOD = 60;
     private static final int DEEPEST_CALLS = 8;
